@@ -176,6 +176,8 @@ public final class ChildTest {
         Check.due("pull", x.weight(d, 0, 0, 8), 53);
         Check.scene(x, 0, "come 0;put 0 0 1;put 0 1 1;put 0 1 2;move 0 2 0;move 0 0 3;");
         Check.due("moves of all things, none that came to nothing", x.weight(c, 0, 2, 3), 3);
+        Check.scene(x, 0, "come 0;put 0 2 1;move 0 2 1;");
+        Check.due("moves of another thing", x.weight(c, 0, 2, 3), 2);
         int[] bad = {-1, 4, Integer.MIN_VALUE, Integer.MAX_VALUE};
         for (int n : bad) {
             Check.due("child " + n, x.weight(n, 0, 0, 0), -1);
@@ -225,6 +227,8 @@ public final class ChildTest {
         so(x, "1=2 and (1=1 or 1=1)", false);
         so(x, "(1=1 or 1=1) and 1=2", false);
         so(x, "1=2 or 1=2 or 1=1", true);
+        so(x, "1=1 or 1=2 or 1=2", true);
+        so(x, "1=2 or 1=1 or 1=2 and 1=2", true);
         so(x, "1=1 and 1=1 and 1=2", false);
         so(x, "not 1=2", true);
         so(x, "not not 1=2", false);
@@ -442,6 +446,7 @@ public final class ChildTest {
         Check.due("2 3: none", x.fewest(4 + 8), -1);
         Check.due("all: none", x.fewest(255), -1);
         Check.due("one", x.fewest(16), 0);
+        Check.due("the first alone", x.fewest(1), 0);
         int[] bad = {0, -1, 256, Integer.MIN_VALUE, Integer.MAX_VALUE};
         for (int n : bad) {
             Check.due("rules " + n, x.fewest(n), -1);
@@ -458,6 +463,19 @@ public final class ChildTest {
         Check.due("0 1 3", y.fewest(1 + 2 + 8), 4);
         Check.due("0 1 2 3", y.fewest(1 + 2 + 4 + 8), 2 + 4);
         Check.due("0 2 3", y.fewest(1 + 4 + 8), 1 + 2);
+        // All eight, each question needed:
+        // 3 0 3 3 3 3 0 3   3 3 3 - 3 0 0 3   1 0 0 0 3 1 0 0   1 1 1 1 1 0 0 0
+        WhereShe z = new WhereShe();
+        Check.scene(z, 0, "come 0;come 1;put 0 0 3;tell 1 0 0 0;");
+        Check.scene(z, 1, "come 0;come 1;put 0 0 0;leave 0;move 1 0 3;move 1 0 1;");
+        z.question(0, 0, 0, 0, 1);
+        z.question(0, 0, 1, 0, 0);
+        z.question(1, 0, 0, 0, 1);
+        Check.due("2 and 7 alike", z.fewest(255), -1);
+        z.question(1, 0, 1, 0, 0);
+        z.question(1, 0, 1, 0, 0);
+        Check.due("all eight", z.fewest(255), 15);
+        Check.due("5 6 7", z.fewest(32 + 64 + 128), 1 + 2);
     }
 
     private static void make() {
@@ -492,6 +510,17 @@ public final class ChildTest {
         Check.due("move 0 1 0 does not", x.make(4, 4, 7), 105);
         Check.due("who sees all its moves", x.make(4, 0, 4), -1);
         Check.due("move 0 1 1", x.make(4, 0, 7), 105);
+        Check.scene(x, 6, "come 1;put 1 1 0;move 1 1 1;come 0;");
+        Check.due("move 0 1 0", x.make(4, 3, 0), 0);
+        x.question(6, 0, 1, 1, -1);
+        Check.due("move 0 1 0", x.make(5, 3, 0), 104);
+        Check.scene(x, 6, "come 0;come 1;put 0 0 1;put 1 1 1;");
+        x.question(6, 0, 0, 0, -1);
+        Check.due("move 0 0 0", x.make(6, 1, 7), 100);
+        Check.due("move 1 0 0", x.make(6, 1, 3), 112);
+        Check.scene(x, 6, "come 0;come 1;wear 0 0;put 0 0 1;put 1 1 1;");
+        Check.due("0 does not see 1 move it", x.make(6, 0, 1), 112);
+        Check.scene(x, 6, "come 0;put 0 1 0;");
         StringBuilder full = new StringBuilder("come 0;put 0 1 0;");
         for (int i = 0; i < 21; i++) {
             full.append("come 0;");
@@ -507,6 +536,6 @@ public final class ChildTest {
             Check.due("a " + n, x.make(0, n, 1), -1);
             Check.due("b " + n, x.make(0, 0, n), -1);
         }
-        Check.due("question 5", x.make(5, 0, 1), -1);
+        Check.due("question 7", x.make(7, 0, 1), -1);
     }
 }

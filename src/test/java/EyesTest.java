@@ -58,6 +58,9 @@ public final class EyesTest {
         way("200 399", "L-L-L- L-L-L- L-L-L- ------", new int[] {200, 399});
         way("200 400", "L-L-L- L-L-L- L-L-L- L-L-L-", new int[] {200, 400});
         way("1000 3000", "L-L-L- L-L-L- L-L-L- L-L-L-", new int[] {1000, 3000});
+        way("3000 3000", "------ ------ ------ ------", new int[] {3000, 3000});
+        way("3000 100 is not out", "------ ------ ------ ------", new int[] {3000, 100}, new int[] {100, 1000});
+        way("3001 100 is out", "----L- ----L- ----L- ----L-", new int[] {3001, 100}, new int[] {100, 1000});
         way("1000 3001", "L-L--- L-L--- L-L--- L-L---", new int[] {1000, 3001});
         way("2800 5000: cut to 3000", "L----- L----- L----- L-----", new int[] {2800, 5000});
         way("3001 1000", "------ ------ ------ ------", new int[] {3001, 1000});
@@ -94,6 +97,9 @@ public final class EyesTest {
         way("8 of 10", signsAll(false), rows(8, 2, 0));
         way("9 of 12", signsAll(false), rows(9, 3, 3));
         way("10 of 12", signsAll(true), rows(10, 2, 0));
+        // 20 of 30: 49.4, the nearest that there is below 50; 24 of 37 likewise.
+        way("20 of 30", signsAll(true), rows(20, 10, 5));
+        way("24 of 37", signsAll(true), rows(24, 13, 0));
         // 12 of 16: 2517 of 65536 is 38; 26 of 40: 40.3; 25 of 40: 76.9.
         way("12 of 16", signsAll(true), rows(12, 4, 0));
         way("26 of 40", signsAll(true), rows(26, 14, 0));
@@ -175,6 +181,33 @@ public final class EyesTest {
         Check.due("500 off", y.houses(2), 0);
         y.house(4, 0);
         Check.due("667 off", y.houses(2), 1);
+        // The root of 49 is 7: 1000 by 7 is 142, not 143.
+        WhereShe w = new WhereShe();
+        w.house(49, 7);
+        Check.due("share", w.houses(10), 142);
+        w.house(951, 0);
+        // 7 of 1000: 7; 135 off, not above 142.
+        Check.due("135 off", w.houses(2), 0);
+        WhereShe w2 = new WhereShe();
+        w2.house(49, 7);
+        w2.house(999, 0);
+        w2.house(999, 0);
+        w2.house(999, 0);
+        // 7 of 3046: 2; 140 off.
+        Check.due("140 off", w2.houses(2), 0);
+        WhereShe w3 = new WhereShe();
+        w3.house(7 * 7, 14);
+        w3.house(7 * 7, 0);
+        // 142 joined, 285 - 142 = 143 off; 142 off is not.
+        Check.due("143 off", w3.houses(2), 1);
+        WhereShe v = new WhereShe();
+        v.house(1, 1);
+        Check.due("one of one", v.houses(0), 1000);
+        Check.due("share of one", v.houses(10), 1000);
+        WhereShe v2 = new WhereShe();
+        v2.house(2, 0);
+        v2.house(2, 2);
+        Check.due("the second alone", v2.houses(3), 2);
         // Far above what an int holds before it is parted.
         WhereShe z = new WhereShe();
         for (int i = 0; i < 20; i++) {

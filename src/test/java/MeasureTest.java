@@ -82,13 +82,21 @@ public final class MeasureTest {
         Check.due("twelve", x.odds(3, 6), 499);
         Check.due("twelve", x.odds(3, 0), 0);
         Check.due("its rule", x.odds(3, 8), 1);
+        x.child(0, 2, 1, 0);
+        for (int i = 0; i < 14; i++) {
+            x.told(4, 3, 0, i < 6 ? 3 : 2);
+        }
+        // Six times 3 for 1 6, six times 2 for 0 5; the 13th and the 14th do not count.
+        Check.due("six and six", x.odds(4, 1), 249);
+        Check.due("six and six", x.odds(4, 0), 249);
+        Check.due("six and six", x.odds(4, 8), 0);
         Check.scene(x, 1, "come 0;put 0 0 2;move 0 0 3;");
         Check.due("a SCENE as it is when asked", x.odds(3, 0), 199);
         for (int b : BAD) {
             Check.due("child " + b, x.odds(b, 0), -1);
             Check.due("rule " + b, x.odds(0, b), -1);
         }
-        Check.due("child 4", x.odds(4, 0), -1);
+        Check.due("child 5", x.odds(5, 0), -1);
         Check.due("child -1", x.odds(-1, 0), -1);
         Check.due("rule -1", x.odds(0, -1), -1);
         WhereShe y = seven();
@@ -171,6 +179,13 @@ public final class MeasureTest {
             x.told(0, 0, 0, 3);
         }
         Check.due("root of 16", x.pulls(-1, 4), 250 + 250);
+        WhereShe y = seven();
+        y.child(0, 1, 1, 0);
+        y.told(0, 0, 1, 2);
+        Check.due("the first", y.pulls(1, 2), 1000);
+        y.told(0, 0, 1, 2);
+        y.told(0, 0, 1, 1);
+        Check.due("two of three", y.pulls(1, 2), 666);
         // Asked ones count as told ones.
         Check.law(x, 0, "pull 100;");
         x.ask(0, 0, 3);
@@ -223,6 +238,28 @@ public final class MeasureTest {
         for (int b : BAD) {
             Check.due("what " + b, x.beside(b), -1);
         }
+        WhereShe y = seven();
+        y.child(0, 1, 1, 0);
+        y.told(0, 0, 0, 1);
+        y.told(0, 1, 0, 1);
+        Check.due("the first child", y.beside(0), 1);
+        Check.due("one that passes both", y.beside(4), 1);
+        y.told(0, 1, 0, 0);
+        Check.due("look alone", y.beside(1), 1);
+        Check.due("one that passes one alone", y.beside(4), 0);
+        for (int c = 1; c < 4; c++) {
+            y.child(0, 1, 1, 0);
+            y.told(c, 0, 0, 0);
+            y.told(c, 1, 0, 0);
+            Check.due("one of " + (c + 1), y.beside(4), c < 3 ? 0 : 1);
+        }
+        y.told(3, 0, 0, 1);
+        y.told(3, 1, 0, 1);
+        Check.due("one of four: the sum of all", y.beside(4), 1);
+        y.child(0, 1, 1, 0);
+        y.told(4, 0, 0, 0);
+        y.told(4, 1, 0, 1);
+        Check.due("two of five", y.beside(4), 0);
         Check.due("what 5", x.beside(5), -1);
         Check.due("what -1", x.beside(-1), -1);
     }
@@ -382,6 +419,7 @@ public final class MeasureTest {
         Check.due("question 3", x.next(0, 1, 0, 0, 0), 3);
         Check.due("wholly apart", x.next(0, 1, 0, 0, 1), 2000);
         Check.due("half apart", x.next(0, 1, 0, 1, 1), 1000);
+        Check.due("asked how 3", x.next(0, 1, 0, 3, 1), 2000);
         // 1 and 4 part 3, 4 (NONE against 1) and 6.
         Check.due("of several the least", x.next(0, 2, 0, 0, 0), 3);
         Check.due("either way", x.next(2, 0, 0, 0, 0), 3);

@@ -13,6 +13,8 @@ public final class SceneTest {
         lifting();
         watching();
         pictures();
+        otherThings();
+        otherScenes();
         wrongInputs();
         Check.close();
     }
@@ -205,6 +207,42 @@ public final class SceneTest {
         x = scene("come 0;put 0 0 1;snap 0;move 0 0 2;put 0 1 3;snap 0;");
         after(x, 0, 3, 2, -1, -1, -1, 0, 2, 2, -1, 1, 1);
         after(x, 1, 0, 3, 3, 3, 3, 1, 1, 3, -1, -1, 3);
+    }
+
+    private static void otherThings() {
+        Check.at("promise 7, each thing by itself");
+        WhereShe x = scene("come 0;come 1;put 0 1 2;put 0 2 3;snap 1;leave 1;move 0 1 0;move 0 2 1;come 1;lift 1 0;lift 1 3;");
+        after(x, 0, 1, -1, -1, -1, -1, 0, 0, -1, -1, -1, -1);
+        after(x, 1, 1, 0, 0, 0, -1, 1, 2, -1, 2, 2, 2);
+        after(x, 2, 1, 1, -1, 3, -1, 0, 2, -1, 3, 3, 3);
+        Check.at("promise 8, each thing by itself");
+        Check.due("0 of 1, thing 1", x.thinks(0, 0, 1, 1), 0);
+        Check.due("0 of 1, thing 2", x.thinks(0, 0, 1, 2), -1);
+        Check.due("1 of 0, thing 1", x.thinks(0, 1, 0, 1), 2);
+        Check.due("1 of 0, thing 2", x.thinks(0, 1, 0, 2), 3);
+    }
+
+    private static void otherScenes() {
+        Check.at("promises 7 to 9, a scene after another one");
+        WhereShe x = scene("come 0;come 1;wear 0 0;wear 0 1;wear 1 0;put 0 0 1;snap 0;snap 1;move 0 0 2;tell 0 1 1 1;");
+        for (int who = 0; who < 4; who++) {
+            for (int thing = 0; thing < 3; thing++) {
+                x.after(0, 0, 0, 0);
+                for (int what = 0; what < 10; what++) {
+                    boolean many = what == 4 || what == 5;
+                    Check.due("after(1, ..)", x.after(1, thing, who, what), many ? 0 : -1);
+                }
+                Check.due("thinks(0, 1, 0, 1)", x.thinks(0, 1, 0, 1), 1);
+                Check.due("thinks(1, ..)", x.thinks(1, who, (who + 1) % 4, thing), -1);
+                Check.due("thinks(0, 0, 1, 1)", x.thinks(0, 0, 1, 1), 1);
+            }
+            for (int what = 0; what < 4; what++) {
+                Check.due("here(0, 0, ..)", x.here(0, 0, what), 1);
+                Check.due("here(1, ..)", x.here(1, who, what), 0);
+            }
+        }
+        Check.scene(x, 1, "come 2;come 3;put 2 1 2;");
+        Check.due("thinks, no screen worn in it", x.thinks(1, 2, 3, 1), 2);
     }
 
     private static void wrongInputs() {

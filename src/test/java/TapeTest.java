@@ -152,6 +152,16 @@ public final class TapeTest {
         fault(x, 0, "comes 0;", 1, 0);
         fault(x, 0, "com 0;", 1, 0);
         fault(x, 0, "comeleave 0;", 1, 0);
+        fault(x, 0, "comea 0;", 1, 0);
+        fault(x, 0, "comez 0;", 1, 0);
+        fault(x, 0, "comeA 0;", 1, 0);
+        fault(x, 0, "comeZ 0;", 1, 0);
+        fault(x, 0, "come@ 0;", 1, 4);
+        fault(x, 0, "come[ 0;", 1, 4);
+        fault(x, 0, "come` 0;", 1, 4);
+        fault(x, 0, "come{ 0;", 1, 4);
+        fault(x, 0, "come 0/;", 1, 6);
+        fault(x, 0, "come 0:;", 1, 6);
         fault(x, 0, "come\t0;", 1, 4);
         fault(x, 0, "come 0;\r", 1, 7);
         fault(x, 0, "come 0,", 1, 6);
