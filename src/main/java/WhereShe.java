@@ -95,6 +95,7 @@ public final class WhereShe {
     private static final int MONTHS = WORD + 6;
     private static final int GIVEN = 6;
 
+    // All that stands in a TEXT beside words and numbers.
     private static final String SIGNS = ";+-*/()<=>";
 
     // A LAW's code: a number of 0 and more stands for itself, each of these for what is to be done.
@@ -649,6 +650,7 @@ public final class WhereShe {
         return now.questions.at(q, Q_SORT) == sort && now.saidOf(q, TELLS) == 1;
     }
 
+    /** What is given comes in the order of LAW_WORDS, from months on. */
     private void weigh(int law, int child, int question, int how) {
         scale.give(0, now.children.at(child, C_MONTHS));
         scale.give(1, now.children.at(child, C_WORDS));
@@ -1540,13 +1542,20 @@ public final class WhereShe {
 
         /** C, with so many ( and not open around it. */
         private void single(int open) {
-            int sign = token();
-            if (sign != NOT && sign != '(') {
+            boolean denied = token() == NOT;
+            if (!denied && token() != '(') {
                 sum();
-                compareWithSum();
+                int sign = token();
+                if (sign != '<' && sign != '=' && sign != '>') {
+                    fail(1);
+                    return;
+                }
+                at++;
+                sum();
+                emit(sign == '<' ? OP_LESS : sign == '=' ? OP_SAME : OP_MORE);
             } else if (open >= OPEN) {
                 fail(3);
-            } else if (sign == NOT) {
+            } else if (denied) {
                 at++;
                 single(open + 1);
                 emit(OP_NOT);
@@ -1555,17 +1564,6 @@ public final class WhereShe {
                 condition(open + 1);
                 skip(')');
             }
-        }
-
-        private void compareWithSum() {
-            int sign = token();
-            if (sign != '<' && sign != '=' && sign != '>') {
-                fail(1);
-                return;
-            }
-            at++;
-            sum();
-            emit(sign == '<' ? OP_LESS : sign == '=' ? OP_SAME : OP_MORE);
         }
 
         /** E and T in one: a * or / is done at once, a + or - waits for those behind it. */

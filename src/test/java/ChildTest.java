@@ -101,6 +101,14 @@ public final class ChildTest {
             Check.due("question " + b, x.says(b, 0), -2);
         }
         Check.due("question 8", x.says(8, 0), -2);
+        WhereShe z = new WhereShe();
+        Check.scene(z, 2, "come 0;put 0 1 2;put 0 2 3;snap 1;move 0 1 0;");
+        z.question(2, 1, 1, 1, -1);
+        z.question(2, 1, 1, 2, -1);
+        z.question(2, 1, 0, 2, -1);
+        saysAll(z, 0, 0, 2, 2, 2, 2, 0, 2, 2, 2, 1);
+        saysAll(z, 1, 3, 3, 3, 3, -1, 3, 3, 3, 3, 0);
+        saysAll(z, 2, 3, -1, -1, -1, -1, 3, -1, 3, -1, 1);
         // 0 moves it last: all rules but WRONG, which turns only for one who did not see.
         WhereShe y = new WhereShe();
         Check.scene(y, 3, "come 0;come 1;put 1 2 0;move 0 2 3;leave 0;move 1 2 1;leave 1;come 0;lift 0 1;");
@@ -530,6 +538,13 @@ public final class ChildTest {
         Check.scene(x, 6, full + "come 0;");
         Check.due("24 acts", x.make(4, 0, 7), -1);
         Check.due("the scene stays", x.after(6, 1, 0, 5), 1);
+        WhereShe y = two();
+        y.question(0, 0, 0, 0, 1);
+        Check.due("SECOND stays FIRST", y.make(0, 6, 7), -1);
+        Check.scene(y, 0, "come 0;come 1;wear 1 1;doff 1;put 1 0 1;wear 0 1;");
+        Check.due("who has worn the clear one", y.make(0, 6, 0), -1);
+        Check.scene(y, 0, "come 0;come 1;wear 1 0;doff 1;put 1 0 1;wear 0 1;");
+        Check.due("who has worn the other one", y.make(0, 6, 0), 112);
         int[] bad = {-1, 8, Integer.MIN_VALUE, Integer.MAX_VALUE};
         for (int n : bad) {
             Check.due("question " + n, x.make(n, 0, 1), -1);
