@@ -27,7 +27,7 @@ final class Check {
     }
 
     /** Puts a text on the TAPE, behind what is there. */
-    static void tape(WhereShe x, String text) {
+    static void tape(Counted x, String text) {
         byte[] bytes = text.getBytes(StandardCharsets.ISO_8859_1);
         int had = x.feed(0, 0, 0, 0, 0) - 20;
         x.end(had);
@@ -44,12 +44,12 @@ final class Check {
         x.end(had + bytes.length);
     }
 
-    static int scene(WhereShe x, int k, String text) {
+    static int scene(Counted x, int k, String text) {
         tape(x, text);
         return x.text(0, k);
     }
 
-    static int law(WhereShe x, int k, String text) {
+    static int law(Counted x, int k, String text) {
         tape(x, text);
         return x.text(1, k);
     }

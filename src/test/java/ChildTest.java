@@ -26,8 +26,8 @@ public final class ChildTest {
         Check.close();
     }
 
-    private static WhereShe two() {
-        WhereShe x = new WhereShe();
+    private static Counted two() {
+        Counted x = new Counted();
         Check.scene(x, 0, MOVED);
         Check.scene(x, 1, TOLD);
         return x;
@@ -35,7 +35,7 @@ public final class ChildTest {
 
     private static void question() {
         Check.at("promise 10");
-        WhereShe x = two();
+        Counted x = two();
         int[] bad = {Integer.MIN_VALUE, -2, 8, Integer.MAX_VALUE};
         for (int b : bad) {
             Check.due("scene " + b, x.question(b, 0, 0, 0, -1), -1);
@@ -69,7 +69,7 @@ public final class ChildTest {
         Check.due("twelve", x.look(0), 12);
     }
 
-    private static void saysAll(WhereShe x, int q, int... due) {
+    private static void saysAll(Counted x, int q, int... due) {
         for (int rule = 0; rule < due.length; rule++) {
             Check.due("says(" + q + ", " + rule + ")", x.says(q, rule), due[rule]);
         }
@@ -77,7 +77,7 @@ public final class ChildTest {
 
     private static void says() {
         Check.at("promise 11");
-        WhereShe x = two();
+        Counted x = two();
         x.question(0, 0, 0, 0, -1);
         x.question(0, 0, 0, 0, 1);
         x.question(0, 1, 0, 0, -1);
@@ -101,7 +101,7 @@ public final class ChildTest {
             Check.due("question " + b, x.says(b, 0), -2);
         }
         Check.due("question 8", x.says(8, 0), -2);
-        WhereShe z = new WhereShe();
+        Counted z = new Counted();
         Check.scene(z, 2, "come 0;put 0 1 2;put 0 2 3;snap 1;move 0 1 0;");
         z.question(2, 1, 1, 1, -1);
         z.question(2, 1, 1, 2, -1);
@@ -110,7 +110,7 @@ public final class ChildTest {
         saysAll(z, 1, 3, 3, 3, 3, -1, 3, 3, 3, 3, 0);
         saysAll(z, 2, 3, -1, -1, -1, -1, 3, -1, 3, -1, 1);
         // 0 moves it last: all rules but WRONG, which turns only for one who did not see.
-        WhereShe y = new WhereShe();
+        Counted y = new Counted();
         Check.scene(y, 3, "come 0;come 1;put 1 2 0;move 0 2 3;leave 0;move 1 2 1;leave 1;come 0;lift 0 1;");
         y.question(3, 0, 0, 2, 1);
         y.question(3, 0, 1, 2, -1);
@@ -120,7 +120,7 @@ public final class ChildTest {
 
     private static void saysAsItIs() {
         Check.at("promise 11, a SCENE as it is when asked");
-        WhereShe x = two();
+        Counted x = two();
         x.question(0, 0, 0, 0, -1);
         x.question(1, 0, 0, 0, -1);
         Check.due("another scene", Check.scene(x, 0, "come 0;put 0 0 3;"), 2);
@@ -132,7 +132,7 @@ public final class ChildTest {
 
     private static void child() {
         Check.at("promise 12");
-        WhereShe x = new WhereShe();
+        Counted x = new Counted();
         int[][] bad = {{4, 0, 0, 0}, {-1, 0, 0, 0}, {0, -1, 0, 0}, {0, 121, 0, 0}, {0, 0, -1, 0}, {0, 0, 10, 0},
             {0, 0, 0, -1}, {0, 0, 0, 2}, {0, Integer.MAX_VALUE, 0, 0}, {Integer.MIN_VALUE, 0, 0, 0}};
         for (int[] b : bad) {
@@ -144,14 +144,14 @@ public final class ChildTest {
         }
         Check.due("the greatest months", x.child(3, 120, 9, 1), -1);
         Check.due("forty", x.look(1), 40);
-        WhereShe y = new WhereShe();
+        Counted y = new Counted();
         Check.due("the edges", y.child(3, 120, 9, 1), 0);
         Check.due("the edges", y.child(0, 0, 0, 0), 1);
     }
 
     private static void weight() {
         Check.at("promise 13");
-        WhereShe x = two();
+        Counted x = two();
         x.question(0, 0, 0, 0, -1);
         x.question(0, 1, 0, 0, -1);
         Check.law(x, 1, "rule 3 5 when months<48;rule 3 7;rule 3 9;rule 0 100;rule 1 0-5;rule 2 99;"
@@ -195,19 +195,19 @@ public final class ChildTest {
         }
     }
 
-    private static void amount(WhereShe x, String e, int due) {
+    private static void amount(Counted x, String e, int due) {
         Check.due("read " + e, Check.law(x, 0, "pull " + e + ";"), 1);
         Check.due(e, x.weight(0, 0, 0, 8), due);
     }
 
-    private static void so(WhereShe x, String b, boolean due) {
+    private static void so(Counted x, String b, boolean due) {
         Check.due("read " + b, Check.law(x, 0, "pull 1 when " + b + ";"), 1);
         Check.due(b, x.weight(0, 0, 0, 8), due ? 1 : 0);
     }
 
     private static void arithmetic() {
         Check.at("promise 13, E and B");
-        WhereShe x = new WhereShe();
+        Counted x = new Counted();
         x.question(0, 0, 0, 0, -1);
         x.child(0, 36, 5, 1);
         amount(x, "2+3*4", 14);
@@ -261,18 +261,15 @@ public final class ChildTest {
 
     private static void ask() {
         Check.at("promise 14");
-        WhereShe x = two();
+        Counted x = two();
         x.question(1, 0, 0, 0, 1);
-        x.question(0, 0, 0, 0, -1);
         // says of question 0: 2 3 1 1 1 2 3 1
         Check.law(x, 0, "rule 1 30;rule 2 50;rule 5 20;pull 40;");
-        Check.law(x, 1, "pull 50;");
         x.child(0, 40, 1, 0);
-        x.child(1, 40, 1, 0);
         int[] state = {12345};
         x.state(12345);
         boolean[] seen = new boolean[16];
-        for (int i = 0; i < 120; i++) {
+        for (int i = 0; i < 100; i++) {
             int d = draw(state, 100);
             int rule = d < 30 ? 1 : d < 80 ? 2 : 5;
             int box = rule == 1 ? 3 : rule == 2 ? 1 : 2;
@@ -284,12 +281,17 @@ public final class ChildTest {
             seen[rule] = true;
             seen[pulled ? 8 : 9] = true;
         }
-        for (int i = 0; i < 120; i++) {
+        Counted y = two();
+        y.question(0, 0, 0, 0, -1);
+        Check.law(y, 1, "pull 50;");
+        y.child(1, 40, 1, 0);
+        y.state(state[0]);
+        for (int i = 0; i < 100; i++) {
             int box = draw(state, 4);
             boolean pulled = draw(state, 100) < 50;
-            Check.due("by no rule " + i, x.ask(1, 1, 0), pulled ? 2 : box);
-            Check.due("rule", x.answer(120 + i, 4), -1);
-            Check.due("pulled", x.answer(120 + i, 5), pulled ? 1 : 0);
+            Check.due("by no rule " + i, y.ask(0, 0, 0), pulled ? 2 : box);
+            Check.due("rule", y.answer(i, 4), -1);
+            Check.due("pulled", y.answer(i, 5), pulled ? 1 : 0);
             seen[10 + box] = true;
         }
         for (int k : new int[] {1, 2, 5, 8, 9, 10, 11, 12, 13}) {
@@ -299,7 +301,7 @@ public final class ChildTest {
 
     private static void askNone() {
         Check.at("promise 14, none");
-        WhereShe x = two();
+        Counted x = two();
         x.question(0, 0, 0, 0, -1);
         x.question(2, 0, 0, 0, -1);
         x.child(0, 40, 1, 0);
@@ -330,7 +332,7 @@ public final class ChildTest {
 
     private static void told() {
         Check.at("promise 15");
-        WhereShe x = two();
+        Counted x = two();
         x.question(0, 0, 0, 0, -1);
         x.child(0, 40, 1, 0);
         int[] bad = {-1, 4, Integer.MIN_VALUE, Integer.MAX_VALUE};
@@ -352,7 +354,7 @@ public final class ChildTest {
 
     private static void answer() {
         Check.at("promise 16");
-        WhereShe x = two();
+        Counted x = two();
         x.question(0, 0, 0, 0, -1);
         x.question(1, 0, 0, 0, -1);
         x.child(0, 40, 1, 0);
@@ -378,7 +380,7 @@ public final class ChildTest {
 
     private static void chance() {
         Check.at("promise 17");
-        WhereShe x = two();
+        Counted x = two();
         x.question(1, 0, 0, 0, 1);
         x.question(5, 0, 0, 0, -1);
         // says of question 0: 2 3 1 1 1 2 3 1
@@ -412,7 +414,7 @@ public final class ChildTest {
 
     private static void parted() {
         Check.at("promise 18");
-        WhereShe x = two();
+        Counted x = two();
         Check.due("no questions", x.parted(0, 1), 0);
         x.question(0, 0, 0, 0, -1);
         x.question(1, 0, 0, 0, 1);
@@ -438,7 +440,7 @@ public final class ChildTest {
 
     private static void fewest() {
         Check.at("promise 19");
-        WhereShe x = two();
+        Counted x = two();
         Check.due("one rule without questions", x.fewest(128), 0);
         Check.due("two without questions", x.fewest(3), -1);
         x.question(0, 0, 0, 0, -1);
@@ -460,7 +462,7 @@ public final class ChildTest {
             Check.due("rules " + n, x.fewest(n), -1);
         }
         // Fewest before least: the last question alone parts all that the first two part together.
-        WhereShe y = new WhereShe();
+        Counted y = new Counted();
         Check.scene(y, 0, "come 0;come 1;put 0 0 1;leave 0;move 1 0 2;");
         Check.scene(y, 1, "come 0;come 1;put 0 0 1;move 1 0 2;");
         Check.scene(y, 2, TOLD);
@@ -473,7 +475,7 @@ public final class ChildTest {
         Check.due("0 2 3", y.fewest(1 + 4 + 8), 1 + 2);
         // All eight, each question needed:
         // 3 0 3 3 3 3 0 3   3 3 3 - 3 0 0 3   1 0 0 0 3 1 0 0   1 1 1 1 1 0 0 0
-        WhereShe z = new WhereShe();
+        Counted z = new Counted();
         Check.scene(z, 0, "come 0;come 1;put 0 0 3;tell 1 0 0 0;");
         Check.scene(z, 1, "come 0;come 1;put 0 0 0;leave 0;move 1 0 3;move 1 0 1;");
         z.question(0, 0, 0, 0, 1);
@@ -488,7 +490,7 @@ public final class ChildTest {
 
     private static void make() {
         Check.at("promise 20");
-        WhereShe x = two();
+        Counted x = two();
         x.question(0, 0, 0, 0, -1);
         x.question(0, 0, 1, 0, 0);
         x.question(0, 1, 0, 0, -1);
@@ -538,7 +540,7 @@ public final class ChildTest {
         Check.scene(x, 6, full + "come 0;");
         Check.due("24 acts", x.make(4, 0, 7), -1);
         Check.due("the scene stays", x.after(6, 1, 0, 5), 1);
-        WhereShe y = two();
+        Counted y = two();
         y.question(0, 0, 0, 0, 1);
         Check.due("SECOND stays FIRST", y.make(0, 6, 7), -1);
         Check.scene(y, 0, "come 0;come 1;wear 1 1;doff 1;put 1 0 1;wear 0 1;");

@@ -14,7 +14,7 @@ public final class EyesTest {
 
     private static void eyes() {
         Check.at("promise 25");
-        WhereShe x = new WhereShe();
+        Counted x = new Counted();
         int[] bad = {-1, 10000, Integer.MIN_VALUE, Integer.MAX_VALUE};
         for (int b : bad) {
             Check.due("right " + b, x.eyes(b, 0), -1);
@@ -30,7 +30,7 @@ public final class EyesTest {
 
     /** Which of the 24 WAYS are LONG, a letter each. */
     private static void way(String what, String due, int[]... rows) {
-        WhereShe x = new WhereShe();
+        Counted x = new Counted();
         for (int[] row : rows) {
             x.eyes(row[0], row[1]);
         }
@@ -67,7 +67,7 @@ public final class EyesTest {
         // Rows are added before they are weighed.
         way("out", "----L- ----L- ----L- ------", new int[] {4000, 2900}, new int[] {100, 400});
         way("cut", "--L-L- --L-L- --L-L- --L-L-", new int[] {9000, 3100}, new int[] {1500, 3000});
-        WhereShe x = new WhereShe();
+        Counted x = new Counted();
         for (int b : new int[] {-1, 25, Integer.MIN_VALUE, Integer.MAX_VALUE}) {
             Check.due("way " + b, x.way(b), -1);
         }
@@ -127,7 +127,7 @@ public final class EyesTest {
 
     private static void house() {
         Check.at("promise 27");
-        WhereShe x = new WhereShe();
+        Counted x = new Counted();
         int[][] bad = {{0, 0}, {-1, -1}, {1000, 0}, {5, 6}, {5, -1}, {Integer.MAX_VALUE, 0}, {Integer.MIN_VALUE, 0},
             {5, Integer.MIN_VALUE}, {5, Integer.MAX_VALUE}};
         for (int[] b : bad) {
@@ -141,7 +141,7 @@ public final class EyesTest {
         Check.due("twenty", x.look(4), 20);
     }
 
-    private static void houses(WhereShe x, int... due) {
+    private static void houses(Counted x, int... due) {
         for (int what = 0; what < 4; what++) {
             Check.due("houses(" + what + ")", x.houses(what), due[what]);
         }
@@ -153,7 +153,7 @@ public final class EyesTest {
 
     private static void houses() {
         Check.at("promise 28");
-        WhereShe x = new WhereShe();
+        Counted x = new Counted();
         houses(x, -1, 0, 0, 0);
         x.house(3, 2);
         houses(x, 666, 0, 0, 1, 666);
@@ -175,41 +175,41 @@ public final class EyesTest {
             Check.due("what " + b, x.houses(b), -1);
         }
         // Just as far as the root allows is not off: root of 15 is 3, 333; root of 4 is 2, 500.
-        WhereShe y = new WhereShe();
+        Counted y = new Counted();
         y.house(4, 4);
         y.house(4, 0);
         Check.due("500 off", y.houses(2), 0);
         y.house(4, 0);
         Check.due("667 off", y.houses(2), 1);
         // The root of 49 is 7: 1000 by 7 is 142, not 143.
-        WhereShe w = new WhereShe();
+        Counted w = new Counted();
         w.house(49, 7);
         Check.due("share", w.houses(10), 142);
         w.house(951, 0);
         // 7 of 1000: 7; 135 off, not above 142.
         Check.due("135 off", w.houses(2), 0);
-        WhereShe w2 = new WhereShe();
+        Counted w2 = new Counted();
         w2.house(49, 7);
         w2.house(999, 0);
         w2.house(999, 0);
         w2.house(999, 0);
         // 7 of 3046: 2; 140 off.
         Check.due("140 off", w2.houses(2), 0);
-        WhereShe w3 = new WhereShe();
+        Counted w3 = new Counted();
         w3.house(7 * 7, 14);
         w3.house(7 * 7, 0);
         // 142 joined, 285 - 142 = 143 off; 142 off is not.
         Check.due("143 off", w3.houses(2), 1);
-        WhereShe v = new WhereShe();
+        Counted v = new Counted();
         v.house(1, 1);
         Check.due("one of one", v.houses(0), 1000);
         Check.due("share of one", v.houses(10), 1000);
-        WhereShe v2 = new WhereShe();
+        Counted v2 = new Counted();
         v2.house(2, 0);
         v2.house(2, 2);
         Check.due("the second alone", v2.houses(3), 2);
         // Far above what an int holds before it is parted.
-        WhereShe z = new WhereShe();
+        Counted z = new Counted();
         for (int i = 0; i < 20; i++) {
             z.house(999, i % 2 == 0 ? 999 : 0);
         }

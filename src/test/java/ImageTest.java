@@ -13,7 +13,7 @@ public final class ImageTest {
 
     private static void none() {
         Check.at("promise 33, none");
-        WhereShe x = new WhereShe();
+        Counted x = new Counted();
         x.state(9);
         x.house(1, 1);
         Check.due("none", x.image(false), false);
@@ -26,8 +26,8 @@ public final class ImageTest {
         Check.due("still there", x.look(6), 1);
     }
 
-    private static WhereShe filled() {
-        WhereShe x = new WhereShe();
+    private static Counted filled() {
+        Counted x = new Counted();
         x.state(77);
         Check.scene(x, 0, "come 0;come 1;put 0 0 1;leave 0;move 1 0 2;");
         Check.scene(x, 7, "come 3;");
@@ -41,7 +41,7 @@ public final class ImageTest {
         return x;
     }
 
-    private static void same(WhereShe x, String when) {
+    private static void same(Counted x, String when) {
         int[] due = {1, 1, 1, 1, 1, 77, 1};
         for (int what = 0; what < 7; what++) {
             Check.due(when + ": look(" + what + ")", x.look(what), due[what]);
@@ -63,7 +63,7 @@ public final class ImageTest {
         Check.due(when + ": score", x.score(0), 91);
     }
 
-    private static void spoil(WhereShe x, int how) {
+    private static void spoil(Counted x, int how) {
         x.state(how);
         Check.scene(x, 0, "come 0;put 0 0 3;");
         Check.scene(x, 1, "come 0;");
@@ -83,7 +83,7 @@ public final class ImageTest {
 
     private static void all() {
         Check.at("promise 33, all");
-        WhereShe x = filled();
+        Counted x = filled();
         Check.due("taken", x.image(true), true);
         same(x, "taken");
         for (int how = 0; how < 4; how++) {
@@ -110,7 +110,7 @@ public final class ImageTest {
 
     private static void more() {
         Check.at("promise 33, anew");
-        WhereShe x = filled();
+        Counted x = filled();
         x.image(true);
         x.told(0, 0, 0, 2);
         x.image(true);
@@ -129,7 +129,7 @@ public final class ImageTest {
 
     private static void look() {
         Check.at("promise 34");
-        WhereShe x = new WhereShe();
+        Counted x = new Counted();
         x.state(-5);
         for (int i = 0; i < 2; i++) {
             x.question(0, 0, 0, 0, -1);

@@ -28,8 +28,8 @@ public final class MeasureTest {
      * 5 a look for what is nowhere: - - - - - - - -, -, 0
      * 6 a picture taken last: 2 2 2 2 1 2 2 1, 2, 0
      */
-    private static WhereShe seven() {
-        WhereShe x = new WhereShe();
+    private static Counted seven() {
+        Counted x = new Counted();
         Check.scene(x, 0, "come 0;come 1;put 0 0 1;snap 0;leave 0;move 1 0 2;");
         Check.scene(x, 1, "come 0;come 1;put 0 0 1;leave 0;move 1 0 2;come 0;tell 1 0 0 3;snap 1;");
         x.question(0, 0, 0, 0, -1);
@@ -44,7 +44,7 @@ public final class MeasureTest {
 
     private static void odds() {
         Check.at("promise 21");
-        WhereShe x = seven();
+        Counted x = seven();
         for (int i = 0; i < 4; i++) {
             x.child(0, 40 + 6 * i, 1, 0);
         }
@@ -99,7 +99,7 @@ public final class MeasureTest {
         Check.due("child 5", x.odds(5, 0), -1);
         Check.due("child -1", x.odds(-1, 0), -1);
         Check.due("rule -1", x.odds(0, -1), -1);
-        WhereShe y = seven();
+        Counted y = seven();
         y.child(0, 1, 1, 1);
         for (int q : new int[] {3, 0, 3, 2}) {
             y.told(0, q, 1, y.says(q, 6));
@@ -109,7 +109,7 @@ public final class MeasureTest {
 
     private static void need() {
         Check.at("promise 22");
-        WhereShe x = new WhereShe();
+        Counted x = new Counted();
         Check.due("without questions", x.need(7, 125), 0);
         Check.due("without questions", x.need(7, 126), -1);
         x = seven();
@@ -134,7 +134,7 @@ public final class MeasureTest {
             Check.due("odds " + b, x.need(0, b), -1);
         }
         // Twelve of one kind: rules 0 and 5 stay alike, 482 is not reached before two, 499 at last.
-        WhereShe y = new WhereShe();
+        Counted y = new Counted();
         Check.scene(y, 0, "come 0;come 1;put 0 0 1;snap 0;leave 0;move 1 0 2;");
         for (int i = 0; i < 12; i++) {
             y.question(0, 0, 0, 0, -1);
@@ -145,7 +145,7 @@ public final class MeasureTest {
 
     private static void pulls() {
         Check.at("promise 23");
-        WhereShe x = seven();
+        Counted x = seven();
         for (int what = 0; what < 5; what++) {
             Check.due("none " + what, x.pulls(-1, what), what < 2 ? 0 : -1);
         }
@@ -179,7 +179,7 @@ public final class MeasureTest {
             x.told(0, 0, 0, 3);
         }
         Check.due("root of 16", x.pulls(-1, 4), 250 + 250);
-        WhereShe y = seven();
+        Counted y = seven();
         y.child(0, 1, 1, 0);
         y.told(0, 0, 1, 2);
         Check.due("the first", y.pulls(1, 2), 1000);
@@ -194,7 +194,7 @@ public final class MeasureTest {
 
     private static void beside() {
         Check.at("promise 24");
-        WhereShe x = seven();
+        Counted x = seven();
         for (int i = 0; i < 12; i++) {
             x.child(0, 1, 1, 0);
         }
@@ -238,7 +238,7 @@ public final class MeasureTest {
         for (int b : BAD) {
             Check.due("what " + b, x.beside(b), -1);
         }
-        WhereShe y = seven();
+        Counted y = seven();
         y.child(0, 1, 1, 0);
         y.told(0, 0, 0, 1);
         y.told(0, 1, 0, 1);
@@ -266,7 +266,7 @@ public final class MeasureTest {
 
     private static void sorts() {
         Check.at("promise 29");
-        WhereShe x = seven();
+        Counted x = seven();
         int[] sort = {0, 0, 0, 1, 1, 1};
         for (int s : sort) {
             x.child(0, 1, 1, s);
@@ -300,7 +300,7 @@ public final class MeasureTest {
 
     private static void curve() {
         Check.at("promise 30");
-        WhereShe x = seven();
+        Counted x = seven();
         int[] months = {0, 5, 6, 11, 12, 120, 119};
         for (int m : months) {
             x.child(0, m, 1, 0);
@@ -329,7 +329,7 @@ public final class MeasureTest {
 
     private static void turn() {
         Check.at("promise 30, TURN");
-        WhereShe x = seven();
+        Counted x = seven();
         Check.due("none", x.curve(-1, 0), -1);
         for (int s = 0; s <= 20; s++) {
             x.child(0, 6 * s, 1, 0);
@@ -351,7 +351,7 @@ public final class MeasureTest {
 
     private static void score() {
         Check.at("promise 31");
-        WhereShe x = seven();
+        Counted x = seven();
         Check.due("no answers", x.score(3), 0);
         Check.due("no answers", x.score(-1), 0);
         x.child(3, 40, 1, 0);
@@ -381,7 +381,7 @@ public final class MeasureTest {
         Check.due("500 500 500", x.score(3), 3 * (80 + 244 * 10 / 256));
         x.told(0, 3, 2, 1);
         Check.due("how 2: 0", x.score(3), 3 * 89 - 50);
-        WhereShe y = seven();
+        Counted y = seven();
         y.child(0, 40, 1, 0);
         y.told(0, 3, 0, 3);
         // 1000 / 792: 1; 2000 / 694: 2; 3: 3000 / 795; 4 to 8 likewise.
@@ -403,7 +403,7 @@ public final class MeasureTest {
 
     private static void next() {
         Check.at("promise 32");
-        WhereShe x = new WhereShe();
+        Counted x = new Counted();
         x.child(0, 40, 1, 0);
         Check.due("without questions", x.next(0, 1, 0, 0, 0), -1);
         Check.due("without questions", x.next(0, 1, 0, 0, 1), -1);

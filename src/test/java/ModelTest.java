@@ -4,7 +4,7 @@ import java.util.Random;
 /** Runs of drawn calls (the same ones each time), answered by the class as by the Model. */
 public final class ModelTest {
     private final Random random;
-    private final WhereShe x = new WhereShe();
+    private final Counted x = new Counted();
     private final Model m = new Model();
     private final StringBuilder trail = new StringBuilder();
     private int calls = 0;
@@ -51,7 +51,12 @@ public final class ModelTest {
         Check.due("call " + calls + " " + call, got, want);
     }
 
+    /** A text takes 29 calls at most, and is left out where fewer are left. */
     private void text(int sort, int k, String text) {
+        if (x.calls() + 29 > Counted.MOST) {
+            due("look 5", x.look(5), m.look(5));
+            return;
+        }
         trail.append("text ").append(sort).append(' ').append(k).append(": ").append(text).append('\n');
         byte[] bytes = text.getBytes(StandardCharsets.ISO_8859_1);
         for (int i = 0; i < bytes.length; i += 20) {
@@ -165,7 +170,7 @@ public final class ModelTest {
             child();
         }
         boolean many = below(10) == 0;
-        while (calls < 512) {
+        while (x.calls() < Counted.MOST) {
             if (many && below(3) > 0) {
                 told();
             } else {

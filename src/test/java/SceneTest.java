@@ -19,13 +19,13 @@ public final class SceneTest {
         Check.close();
     }
 
-    private static WhereShe scene(String text) {
-        WhereShe x = new WhereShe();
+    private static Counted scene(String text) {
+        Counted x = new Counted();
         Check.due("read " + text, Check.scene(x, 0, text) >= 0, true);
         return x;
     }
 
-    private static void after(WhereShe x, int thing, int who, int... due) {
+    private static void after(Counted x, int thing, int who, int... due) {
         for (int what = 0; what < due.length; what++) {
             Check.due("after(0, " + thing + ", " + who + ", " + what + ")", x.after(0, thing, who, what), due[what]);
         }
@@ -33,7 +33,7 @@ public final class SceneTest {
 
     private static void moved() {
         Check.at("promise 7, moved");
-        WhereShe x = scene("come 0;come 1;put 0 0 1;leave 0;move 1 0 2;move 1 0 3;");
+        Counted x = scene("come 0;come 1;put 0 0 1;leave 0;move 1 0 2;move 1 0 3;");
         after(x, 0, 0, 3, 1, 1, 1, 0, 3, -1, -1, 2, 1);
         after(x, 0, 1, 3, 3, 3, 3, 1, 3, -1, -1, 2, 1);
         after(x, 0, 2, 3, -1, -1, -1, 0, 3, -1, -1, 2, 1);
@@ -55,7 +55,7 @@ public final class SceneTest {
         after(scene("come 0;put 0 0 1;leave 0;move 0 0 2;"), 0, 0, 1, 1, 1, 1, 1, 1, -1, -1, -1, 1);
         after(scene("come 0;leave 0;put 0 0 1;"), 0, 0, -1, -1, -1, -1, 0, 0, -1, -1, -1, -1);
         // Coming twice, leaving twice, leaving without having come.
-        WhereShe x = scene("come 0;come 0;leave 1;leave 0;leave 0;come 1;put 1 1 0;");
+        Counted x = scene("come 0;come 0;leave 1;leave 0;leave 0;come 1;put 1 1 0;");
         after(x, 1, 0, 0, -1, -1, -1, 0, 1, -1, -1, -1, 0);
         after(x, 1, 1, 0, 0, 0, 0, 1, 1, -1, -1, -1, 0);
         Check.at("promise 9, nobody");
@@ -67,7 +67,7 @@ public final class SceneTest {
     private static void screens() {
         Check.at("promise 7, screens");
         // Behind the screen 1 does not see; a mover behind one sees what it moves.
-        WhereShe x = scene("come 0;come 1;put 0 0 0;wear 1 0;move 0 0 1;move 1 0 2;");
+        Counted x = scene("come 0;come 1;put 0 0 0;wear 1 0;move 0 0 1;move 1 0 2;");
         after(x, 0, 1, 2, 2, 2, 2, 1, 3, -1, -1, 1, 0);
         after(x, 0, 0, 2, 2, 2, 1, 1, 3, -1, -1, 1, 0);
         Check.at("promise 8, screens");
@@ -95,7 +95,7 @@ public final class SceneTest {
 
     private static void clearScreens() {
         Check.at("promise 7, clear screens");
-        WhereShe x = scene("come 0;come 1;wear 1 1;put 0 0 0;");
+        Counted x = scene("come 0;come 1;wear 1 1;put 0 0 0;");
         after(x, 0, 1, 0, 0, 0, -1, 1, 1, -1, -1, -1, 0);
         Check.at("promise 8, clear screens");
         // 0 has not worn the clear one: 0 does not take 1 for seeing.
@@ -112,7 +112,7 @@ public final class SceneTest {
 
     private static void taking() {
         Check.at("promise 8, who takes whom for seeing");
-        WhereShe x = scene("come 0;come 1;come 2;wear 2 0;put 0 0 3;");
+        Counted x = scene("come 0;come 1;come 2;wear 2 0;put 0 0 3;");
         Check.due("1 of 0", x.thinks(0, 1, 0, 0), 3);
         Check.due("1 of 2", x.thinks(0, 1, 2, 0), -1);
         Check.due("2 of 0", x.thinks(0, 2, 0, 0), -1);
@@ -133,7 +133,7 @@ public final class SceneTest {
 
     private static void telling() {
         Check.at("promise 7, telling");
-        WhereShe x = scene("come 0;come 1;come 2;wear 2 0;put 0 0 0;tell 0 1 0 2;tell 0 3 0 3;tell 3 0 0 3;");
+        Counted x = scene("come 0;come 1;come 2;wear 2 0;put 0 0 0;tell 0 1 0 2;tell 0 3 0 3;tell 3 0 0 3;");
         after(x, 0, 1, 0, 2, 0, -1, 1, 1, -1, -1, -1, 0);
         after(x, 0, 3, 0, -1, -1, -1, 0, 1, -1, -1, -1, 0);
         after(x, 0, 0, 0, 0, 0, 0, 1, 1, -1, -1, -1, 0);
@@ -152,7 +152,7 @@ public final class SceneTest {
 
     private static void lifting() {
         Check.at("promise 7, lifting");
-        WhereShe x = scene("come 0;come 1;put 0 0 1;put 0 1 1;leave 1;move 0 0 2;move 0 1 3;come 1;lift 1 1;");
+        Counted x = scene("come 0;come 1;put 0 0 1;put 0 1 1;leave 1;move 0 0 2;move 0 1 3;come 1;lift 1 1;");
         after(x, 0, 1, 2, -1, 1, -1, 0, 2, -1, -1, 1, 1);
         x = scene("come 0;come 1;put 0 0 1;leave 1;move 0 0 2;come 1;lift 1 2;");
         after(x, 0, 1, 2, 2, 2, -1, 1, 2, -1, -1, 1, 1);
@@ -174,7 +174,7 @@ public final class SceneTest {
     private static void watching() {
         Check.at("promise 8, who sees a lifting");
         // 0 thinks the thing in 2: 0 thinks that 1, who lifts 2, thinks so.
-        WhereShe x = scene("come 0;come 1;put 0 0 1;leave 1;move 0 0 2;come 1;lift 1 2;");
+        Counted x = scene("come 0;come 1;put 0 0 1;leave 1;move 0 0 2;come 1;lift 1 2;");
         Check.due("0 of 1", x.thinks(0, 0, 1, 0), 2);
         // 1 lifts 1, where 0 thinks 1 thinks it is, and 0 knows that it is not.
         x = scene("come 0;come 1;put 0 0 1;leave 1;move 0 0 2;come 1;lift 1 1;");
@@ -201,7 +201,7 @@ public final class SceneTest {
 
     private static void pictures() {
         Check.at("promise 7, pictures");
-        WhereShe x = scene("come 0;put 0 0 1;snap 0;move 0 0 2;snap 1;move 0 0 3;put 0 1 0;");
+        Counted x = scene("come 0;put 0 0 1;snap 0;move 0 0 2;snap 1;move 0 0 3;put 0 1 0;");
         after(x, 0, 3, 3, -1, -1, -1, 0, 3, 1, 2, 2, 1);
         after(x, 1, 3, 0, -1, -1, -1, 0, 1, -1, -1, -1, 0);
         x = scene("come 0;put 0 0 1;snap 0;move 0 0 2;put 0 1 3;snap 0;");
@@ -211,7 +211,7 @@ public final class SceneTest {
 
     private static void otherThings() {
         Check.at("promise 7, each thing by itself");
-        WhereShe x = scene("come 0;come 1;put 0 1 2;put 0 2 3;snap 1;leave 1;move 0 1 0;move 0 2 1;come 1;lift 1 0;lift 1 3;");
+        Counted x = scene("come 0;come 1;put 0 1 2;put 0 2 3;snap 1;leave 1;move 0 1 0;move 0 2 1;come 1;lift 1 0;lift 1 3;");
         after(x, 0, 1, -1, -1, -1, -1, 0, 0, -1, -1, -1, -1);
         after(x, 1, 1, 0, 0, 0, -1, 1, 2, -1, 2, 2, 2);
         after(x, 2, 1, 1, -1, 3, -1, 0, 2, -1, 3, 3, 3);
@@ -224,7 +224,7 @@ public final class SceneTest {
 
     private static void otherScenes() {
         Check.at("promises 7 to 9, a scene after another one");
-        WhereShe x = scene("come 0;come 1;wear 0 0;wear 0 1;wear 1 0;put 0 0 1;snap 0;snap 1;move 0 0 2;tell 0 1 1 1;");
+        Counted x = scene("come 0;come 1;wear 0 0;wear 0 1;wear 1 0;put 0 0 1;snap 0;snap 1;move 0 0 2;tell 0 1 1 1;");
         for (int who = 0; who < 4; who++) {
             for (int thing = 0; thing < 3; thing++) {
                 x.after(0, 0, 0, 0);
@@ -246,7 +246,7 @@ public final class SceneTest {
     }
 
     private static void wrongInputs() {
-        WhereShe x = scene("come 0;put 0 0 0;");
+        Counted x = scene("come 0;put 0 0 0;");
         int[] far = {-2, -1, 8, 100, Integer.MIN_VALUE, Integer.MAX_VALUE};
         Check.at("promise 7, wrong inputs");
         for (int bad : far) {

@@ -18,7 +18,7 @@ public final class TapeTest {
 
     private static void newObject() {
         Check.at("promise 1");
-        WhereShe x = new WhereShe();
+        Counted x = new Counted();
         for (int what = 0; what <= 6; what++) {
             Check.due("look(" + what + ")", x.look(what), 0);
         }
@@ -40,7 +40,7 @@ public final class TapeTest {
 
     private static void state() {
         Check.at("promise 2");
-        WhereShe x = new WhereShe();
+        Counted x = new Counted();
         Check.due("state(7)", x.state(7), 0);
         Check.due("state(MIN)", x.state(Integer.MIN_VALUE), 7);
         Check.due("look(5)", x.look(5), Integer.MIN_VALUE);
@@ -60,7 +60,7 @@ public final class TapeTest {
 
     private static void feed() {
         Check.at("promise 3");
-        WhereShe x = new WhereShe();
+        Counted x = new Counted();
         // "come 3;leave 2;    " the highest byte first
         Check.due("feed", x.feed(0x636f6d65, 0x20333b6c, 0x65617665, 0x20323b20, 0x20202020), 20);
         Check.due("text", x.text(0, 0), 2);
@@ -83,7 +83,7 @@ public final class TapeTest {
 
     private static void end() {
         Check.at("promise 4");
-        WhereShe x = new WhereShe();
+        Counted x = new Counted();
         Check.due("end(0)", x.end(0), true);
         Check.due("end(1)", x.end(1), false);
         Check.due("end(-1)", x.end(-1), false);
@@ -104,7 +104,7 @@ public final class TapeTest {
 
     private static void text() {
         Check.at("promise 5");
-        WhereShe x = new WhereShe();
+        Counted x = new Counted();
         Check.due("empty", x.text(0, 0), 0);
         Check.due("empty law", x.text(1, 3), 0);
         Check.due("blanks", Check.scene(x, 0, " \n  \n"), 0);
@@ -142,7 +142,7 @@ public final class TapeTest {
 
     private static void tokens() {
         Check.at("promise 5, tokens");
-        WhereShe x = new WhereShe();
+        Counted x = new Counted();
         Check.due("no blanks", Check.scene(x, 0, "come0;put0 0 1;"), 2);
         Check.due("many blanks", Check.scene(x, 0, "\n come \n 0 \n;  "), 1);
         Check.due("zeroes in front", Check.scene(x, 0, "come 0003;"), 1);
@@ -172,7 +172,7 @@ public final class TapeTest {
         fault(x, 1, "pull come;", 1, 5);
     }
 
-    private static void fault(WhereShe x, int sort, String text, int what, int place) {
+    private static void fault(Counted x, int sort, String text, int what, int place) {
         Check.tape(x, text);
         Check.due("text of " + text, x.text(sort, 0), -1);
         Check.due("fault of " + text, x.fault(0), what);
@@ -183,7 +183,7 @@ public final class TapeTest {
 
     private static void laws() {
         Check.at("promise 5, laws");
-        WhereShe x = new WhereShe();
+        Counted x = new Counted();
         Check.due("all that there is", Check.law(x, 0,
                 "rule 0 months+words*how-moves/2 when sort=0 and picture<1 or not (1>2);pull 9999;"), 2);
         Check.due("8 open", Check.law(x, 0, "pull 1 when not (not (not (not (1=1))));"), 1);
@@ -197,7 +197,7 @@ public final class TapeTest {
 
     private static void faultsOfScenes() {
         Check.at("promise 6, scenes");
-        WhereShe x = new WhereShe();
+        Counted x = new Counted();
         Check.due("before any", x.fault(0), 0);
         Check.due("before any", x.fault(1), -1);
         fault(x, 0, "come", 1, 4);
@@ -252,7 +252,7 @@ public final class TapeTest {
 
     private static void faultsOfLaws() {
         Check.at("promise 6, laws");
-        WhereShe x = new WhereShe();
+        Counted x = new Counted();
         fault(x, 1, "come 0;", 1, 0);
         fault(x, 1, "rule", 1, 4);
         fault(x, 1, "rule 0", 1, 6);
