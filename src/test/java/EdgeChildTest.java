@@ -15,6 +15,7 @@ public final class EdgeChildTest {
         weightCut();
         weightWraps();
         weightLines();
+        weightDeep();
         weightGiven();
         askRefused();
         askFull();
@@ -282,9 +283,37 @@ public final class EdgeChildTest {
         Check.due("0 first", x.weight(0, 0, 0, 3), 0);
         Check.due("below 0 first", x.weight(0, 0, 0, 4), 0);
         Check.due("PULL 0 first", x.weight(0, 0, 0, 8), 0);
+        // Told anew with lines that are shorter, or longer, none of what was is left.
+        x = oldest("rule 0 1+2+3+4+5 when 1+1+1+1+1=5 and 2<3;rule 1 7+8+9+9 when not 1=2;pull 20-1-1-1-1;");
+        Check.due("long lines", x.weight(0, 0, 0, 0) * 10000 + x.weight(0, 0, 0, 1) * 100 + x.weight(0, 0, 0, 8),
+                153316);
+        Check.law(x, 0, "rule 0 1;rule 1 2;pull 3;");
+        Check.due("short ones", x.weight(0, 0, 0, 0) * 10000 + x.weight(0, 0, 0, 1) * 100 + x.weight(0, 0, 0, 8),
+                10203);
+        Check.law(x, 0, "rule 0 1+2+3+4+5;pull 7+8+9+9 when 1=2;rule 1 3*4-5;pull 6;");
+        Check.due("long ones again", x.weight(0, 0, 0, 0) * 10000 + x.weight(0, 0, 0, 1) * 100
+                + x.weight(0, 0, 0, 8), 150706);
         // The 16th line alone.
         x = oldest("rule 0 1 when 1<1;".repeat(15) + "rule 0 6;");
         Check.due("the 16th line", x.weight(0, 0, 0, 0), 6);
+    }
+
+    private static void weightDeep() {
+        Check.at("promise 13: B with eight open, each of them behind an or and an and that wait");
+        for (int open = 0; open <= 8; open++) {
+            for (int inmost = 0; inmost < 2; inmost++) {
+                StringBuilder b = new StringBuilder("pull 5 when ");
+                for (int i = 0; i < open; i++) {
+                    b.append("1<1 or 1=1 and (");
+                }
+                b.append("1<1 or 1=1 and 9-2*3=").append(inmost == 1 ? 3 : 4).append("+0*2");
+                b.append(")".repeat(open)).append(';');
+                Check.due(b.toString(), oldest(b.toString()).weight(0, 0, 0, 8), inmost == 1 ? 5 : 0);
+                String nots = "pull 5 when " + "not ".repeat(open) + "1=" + inmost + ";";
+                boolean so = open % 2 == 0 ? inmost == 1 : inmost == 0;
+                Check.due(nots, oldest(nots).weight(0, 0, 0, 8), so ? 5 : 0);
+            }
+        }
     }
 
     private static void weightGiven() {

@@ -152,6 +152,8 @@ public final class EdgeRestTest {
         ways("450 551", ADDED, times(1, 450, 551));
         ways("449 550", ADDED, times(1, 449, 550));
         ways("451 550", NO, times(1, 451, 550));
+        // 101 of 1009: 1010 is above it by one.
+        ways("454 555", ADDED, times(1, 454, 555));
         ways("450 550 forty times", COINS, times(40, 450, 550));
         ways("450 551 forty times", BOTH, times(40, 450, 551));
         ways("one right, one wrong", NO, and(times(1, 900, 0), times(1, 0, 900)));
@@ -291,6 +293,8 @@ public final class EdgeRestTest {
         joined(new int[] {500, 0, 0, 1}, new int[] {2, 1});
         joined(new int[] {499, 0, 0, 0}, new int[] {999, 499});
         joined(new int[] {500, 0, 0, 1}, new int[] {999, 500});
+        Check.at("promise 28: quotients go downwards: 560.97, 659.999, 589.74");
+        joined(new int[] {560, 659, 0, 2}, new int[] {2, 0}, new int[] {39, 23});
         Check.at("promise 28: farther from JOINED than 1000 by the ROOT of n");
         // 4 CHILDREN: 500 far is not farther, 501 and more is. 1 to 3: 1000, and no HOUSE is farther.
         joined(new int[] {500, 2 * 4 * 250, 0, 1}, new int[] {4, 4}, new int[] {4, 0});

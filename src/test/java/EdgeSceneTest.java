@@ -1,5 +1,8 @@
 /** The boundary cases that promises 7 to 9, and the acts of a SCENE, name. */
 public final class EdgeSceneTest {
+    /** How # may stand: away, HERE, behind the clear SCREEN, behind the other one. */
+    private static final String[] BEHIND = {"", "come #;", "come #;wear # 1;", "come #;wear # 0;"};
+
     private EdgeSceneTest() {
     }
 
@@ -18,6 +21,7 @@ public final class EdgeSceneTest {
         tellNothing();
         liftNothing();
         liftEdges();
+        liftWatched();
         screens();
         takesForSeeing();
         pictures();
@@ -308,7 +312,39 @@ public final class EdgeSceneTest {
         }
     }
 
-    private static final String[] BEHIND = {"", "come #;", "come #;wear # 1;", "come #;wear # 0;"};
+    private static void liftWatched() {
+        Check.at("lift: each V (not W) that CAN SEE, of each WHO, THING and BOX");
+        for (int v = 0; v < 4; v++) {
+            for (int w = 0; w < 4; w++) {
+                for (int thing = 0; thing < 3 && v != w; thing++) {
+                    int box = (v + w + thing) % 4;
+                    int other = (box + 1) % 4;
+                    String part = " " + thing + " ";
+                    String put = "come " + v + ";come " + w + ";put " + w + part + box + ";leave " + w + ";move " + v
+                            + part + other + ";come " + w + ";";
+                    lifted(put + "lift " + w + " " + other + ";", v, w, thing, other, box);
+                    lifted(put + "lift " + w + " " + box + ";", v, w, thing, -1, box);
+                    lifted(put + "lift " + w + " " + (box + 2) % 4 + ";", v, w, thing, box, box);
+                    lifted(put + "lift " + v + " " + other + ";", v, w, thing, box, box);
+                }
+            }
+        }
+    }
+
+    /** What V THINKS that W THINKS of a THING, what W THINKS that V THINKS; of the others, what was ahead. */
+    private static void lifted(String text, int v, int w, int thing, int ofW, int ofV) {
+        Counted x = scene(text);
+        for (int t = 0; t < 3; t++) {
+            Check.due("V of W: " + text, x.thinks(0, v, w, t), t == thing ? ofW : -1);
+            Check.due("W of V: " + text, x.thinks(0, w, v, t), t == thing ? ofV : -1);
+            for (int who = 0; who < 4; who++) {
+                if (who != v && who != w) {
+                    Check.due("V of one who is away: " + text, x.thinks(0, v, who, t), -1);
+                    Check.due("one who is away of W: " + text, x.thinks(0, who, w, t), -1);
+                }
+            }
+        }
+    }
 
     private static void screens() {
         Check.at("one CAN SEE who is HERE and has no SCREEN on, or the clear one");
