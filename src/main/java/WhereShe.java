@@ -408,7 +408,8 @@ public final class WhereShe {
             int look = lastRight(c, LOOK);
             int picture = lastRight(c, PICTURE);
             if (look != NONE && picture != NONE) {
-                tally[look == 1 ? 1 - picture : 3 - picture]++;
+                int kind = (look == 1 ? 0 : 2) + (picture == 1 ? 0 : 1);
+                tally[kind]++;
             }
         }
         if (what < 4) {

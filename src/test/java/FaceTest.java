@@ -32,7 +32,10 @@ public final class FaceTest {
         Check.at("face");
         members();
         insideClasses();
-        source(Files.readString(Path.of("src/main/java/WhereShe.java")));
+        fewFields(WhereShe.class);
+        String text = Files.readString(Path.of("src/main/java/WhereShe.java"));
+        source(text);
+        shortMethods(text);
         Check.close();
     }
 
@@ -87,9 +90,33 @@ public final class FaceTest {
         for (Class<?> c : inside) {
             Check.due("static " + c, Modifier.isStatic(c.getModifiers()), true);
             Check.due("not public " + c, Modifier.isPublic(c.getModifiers()), false);
+            fewFields(c);
             for (Method m : c.getDeclaredMethods()) {
                 Check.due("a name of the face in " + c + ": " + m.getName(), names.contains(m.getName()), false);
                 Check.due("parameters of " + m, m.getParameterCount() <= 7, true);
+            }
+        }
+    }
+
+    private static void fewFields(Class<?> c) {
+        int many = 0;
+        for (Field f : c.getDeclaredFields()) {
+            many += Modifier.isStatic(f.getModifiers()) ? 0 : 1;
+        }
+        Check.due("fields of " + c + ": " + many, many <= 20, true);
+    }
+
+    /** A method begins with a line that ends with { and ends with a } as far to the left. */
+    private static void shortMethods(String text) {
+        String[] lines = text.split("\n");
+        for (int i = 0; i < lines.length; i++) {
+            if (lines[i].matches(" {4,8}[a-zA-Z][^=;]*\\(.*\\) \\{") && !lines[i].matches(" *(if|for|while|switch).*")) {
+                String shut = lines[i].replaceAll("[^ ].*", "") + "}";
+                int end = i;
+                while (end < lines.length && !lines[end].equals(shut)) {
+                    end++;
+                }
+                Check.due("lines of" + lines[i] + " " + (end - i), end - i <= 60, true);
             }
         }
     }
