@@ -664,6 +664,19 @@ public final class EdgeChildTest {
         }
         Check.due("the twelfth alone", y.fewest(1 + 128), 2048);
         Check.due("one couple that none parts", y.fewest(1 + 2 + 128), -1);
+        Check.at("promise 19: all couples of all eight RULES, the last one, too");
+        Counted last = new Counted();
+        Check.scene(last, 0, "come 0;come 1;put 0 0 3;move 0 0 2;tell 0 1 0 3;leave 1;move 0 0 0;move 0 0 1;");
+        Check.scene(last, 1, Given.FIRST_ALONE);
+        last.question(0, 0, 0, 0, 1);
+        last.question(0, 0, 1, 0, 0);
+        // 1 1 1 1 1 3 3 3 and 1 3 2 - 0 1 3 3: SECOND and FIRST alone are alike.
+        Check.due("6 and 7 alike", last.fewest(255), -1);
+        Check.due("without 7", last.fewest(127), 3);
+        Check.due("without 6", last.fewest(191), 3);
+        last.question(1, 0, 0, 0, -1);
+        Check.due("one more for them", last.fewest(255), 7);
+        Check.due("one alone for them", last.fewest(64 + 128), 4);
         Check.at("promise 19: of several the least as a number");
         Counted z = new Counted();
         Check.scene(z, 0, Given.FIRST_ALONE);
