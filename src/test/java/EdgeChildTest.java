@@ -691,6 +691,7 @@ public final class EdgeChildTest {
         Edge on = new Edge(Given::filled);
         on.outside("question", 0, 3, (x, n) -> x.make(n, 0, 1), -1);
         on.outside("a", 0, 7, (x, n) -> x.make(0, n, 1), -1);
+        on.outside("a, beside THERE", 0, 7, (x, n) -> x.make(0, n, 0), -1);
         on.outside("b", 0, 7, (x, n) -> x.make(0, 1, n), -1);
         on.outside("question, all else the greatest", 0, 3, (x, n) -> x.make(n, 7, 6), -1);
         for (int rule : Edge.upTo(8)) {
